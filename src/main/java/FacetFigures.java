@@ -234,10 +234,7 @@ public final class FacetFigures {
     }
 
     public long figure(int facet, int i, int column, int what) {
-        if (what < ValueRow.COUNT || what > ValueRow.DIFFERENT || !sampleIsTaken(facet, i, column)) {
-            return OUTSIDE;
-        }
-        return sample.tell(what);
+        return sampleIsTaken(facet, i, column) ? sample.tell(what) : OUTSIDE;
     }
 
     public int place(int facet, int i, int column, int percent) {
@@ -557,7 +554,7 @@ public final class FacetFigures {
     private static final class Days {
         static final int DAY = 0;
         static final int WEEK = 1;
-        static final int MONTH = 2;
+        // 2 is the month, which is what is left when the others are out.
         static final int QUARTER = 3;
         static final int YEAR = 4;
 
@@ -844,12 +841,11 @@ public final class FacetFigures {
 
     /** The values of some objects in a column, and their figures. */
     private static final class ValueRow {
-        static final int COUNT = 0;
-        static final int SUM = 1;
-        static final int SMALLEST = 2;
-        static final int GREATEST = 3;
-        static final int DIFFERENT = 4;
-
+        private static final int COUNT = 0;
+        private static final int SUM = 1;
+        private static final int SMALLEST = 2;
+        private static final int GREATEST = 3;
+        private static final int DIFFERENT = 4;
         private static final int MOST = MOST_OBJECTS * MOST_VALUES;
 
         private int count;

@@ -7,6 +7,7 @@ public final class EnteringTest {
         enterOutside();
         mostEntered();
         theMissing();
+        groupsFollowEnteringAndLeaving();
         anotherGroupAfterLeaving();
         changesLeaveAll();
         refusedChangesLeaveNone();
@@ -88,6 +89,16 @@ public final class EnteringTest {
         Scene.dueList(c, "the other facet does not ask for them", x, 1, "");
         c.due("enter nothing", x.enter(1, 0), Scene.OUTSIDE);
         c.due("leave", x.leave(), 0);
+    }
+
+    /** With nothing else asked in between. */
+    private static void groupsFollowEnteringAndLeaving() {
+        FacetFigures x = scene();
+        c.due("groups", x.groups(0), 2);
+        x.enter(0, 1);
+        c.due("groups within", x.groups(0), 1);
+        x.leave();
+        c.due("groups after leaving", x.groups(0), 2);
     }
 
     private static void anotherGroupAfterLeaving() {

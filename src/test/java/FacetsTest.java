@@ -160,7 +160,7 @@ public final class FacetsTest {
 
     private static void order() {
         FacetFigures x = new FacetFigures();
-        int[] words = {30, 10, 20, 20, 10, 40};
+        int[] words = {20, 10, 30, 30, 10, 40};
         int[] sums = {7, -5, 3, 4, 1, 1000000000};
         for (int o = 0; o < words.length; o++) {
             Scene.matching(x, 0, words[o]);
@@ -169,13 +169,13 @@ public final class FacetsTest {
         x.value(5, 2, 1000000000);
         x.value(5, 2, 1000000000);
         x.facet(Scene.WORDS, 0, 0, 0);
-        Scene.dueList(c, "more objects first", x, 0, "10:2 20:2 30:1 40:1");
+        Scene.dueList(c, "more objects first", x, 0, "10:2 30:2 20:1 40:1");
         c.due("order 1, the column is not looked at", x.order(0, 1, 77), 0);
-        Scene.dueList(c, "by key", x, 0, "10:2 20:2 30:1 40:1");
+        Scene.dueList(c, "by key", x, 0, "10:2 20:1 30:2 40:1");
         c.due("order 2", x.order(0, 2, 2), 1);
-        Scene.dueList(c, "by sum, alike ones by key", x, 0, "40:1 20:2 30:1 10:2");
+        Scene.dueList(c, "by sum, alike ones by key", x, 0, "40:1 20:1 30:2 10:2");
         c.due("order 2, a column without values", x.order(0, 2, 5), 2);
-        Scene.dueList(c, "all sums 0", x, 0, "10:2 20:2 30:1 40:1");
+        Scene.dueList(c, "all sums 0", x, 0, "10:2 20:1 30:2 40:1");
         c.due("order 2, column 6", x.order(0, 2, 6), Scene.OUTSIDE);
         c.due("order 2, column NONE", x.order(0, 2, Scene.NONE), Scene.OUTSIDE);
         c.due("order 3", x.order(0, 3, 0), Scene.OUTSIDE);
@@ -183,10 +183,10 @@ public final class FacetsTest {
         c.due("no such facet", x.order(1, 0, 0), Scene.OUTSIDE);
         c.due("no such facet", x.order(-1, 0, 0), Scene.OUTSIDE);
         c.due("order 0, the column is not looked at", x.order(0, 0, -9), 2);
-        Scene.dueList(c, "more objects first", x, 0, "10:2 20:2 30:1 40:1");
+        Scene.dueList(c, "more objects first", x, 0, "10:2 30:2 20:1 40:1");
         c.due("it was 0", x.order(0, 0, 0), 0);
         x.match(0, false);
         x.match(1, false);
-        Scene.dueList(c, "more objects first, then the key", x, 0, "20:2 10:1 40:1");
+        Scene.dueList(c, "more objects first, then the key", x, 0, "30:2 10:1 40:1");
     }
 }

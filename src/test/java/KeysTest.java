@@ -25,11 +25,12 @@ public final class KeysTest {
         FacetFigures x = new FacetFigures();
         Scene.matching(x, 0, 120000, 123456, 123400);
         Scene.matching(x, 0, 123457, 990000);
-        Scene.matching(x, 0, 999999, 10000, 10101);
+        Scene.matching(x, 0, 999999, 10101);
+        Scene.matching(x, 0, 10000);
         x.facet(Scene.PATHS, 0, 9, 9);
         x.order(0, 1, 0);
         Scene.dueList(c, "paths", x, 0,
-            "10000:1 10100:1 10101:1 120000:2 123400:2 123456:1 123457:1 990000:2 999900:1 999999:1");
+            "10000:2 10100:1 10101:1 120000:2 123400:2 123456:1 123457:1 990000:2 999900:1 999999:1");
     }
 
     private static void pathsThatGiveNone() {
@@ -105,7 +106,7 @@ public final class KeysTest {
         Scene.dueList(c, "themselves", x, 2, "-1000000000:1 1000000000:1");
     }
 
-    /** 3 paths of 3 keys each for every object: as many groups as 120 objects can give. */
+    /** 3 paths of up to 3 keys each for every object: some 500 calls can hardly give more groups. */
     private static void mostGroups() {
         FacetFigures x = new FacetFigures();
         x.facet(Scene.PATHS, 0, 0, 0);

@@ -99,6 +99,7 @@ public final class ObjectsTest {
         for (int what = 0; what <= 3; what++) {
             c.due("told after clear", x.told(what), 0);
         }
+        c.due("no values at hand after clear", x.figure(0, Scene.NONE, 0, 0), 0);
         c.due("groups after clear", x.groups(0), Scene.OUTSIDE);
         c.due("object after clear", x.object(), 0);
         c.due("it does not match", x.match(0, true), 0);
