@@ -73,14 +73,14 @@ public final class FiguresTest {
         FacetFigures x = new FacetFigures();
         x.facet(Scene.WORDS, 0, 0, 0);
         x.order(0, 2, 0);
-        for (int o = 0; o < 100; o++) {
+        for (int o = 0; o < 90; o++) {
             int v = o % 2 == 0 ? 1000000000 : -1000000000;
             Scene.matching(x, 0, v, v, v);
         }
         c.due("groups", x.groups(0), 2);
-        dueFigures(x, 0, 0, 0, 150, 150000000000L, 1000000000, 1000000000, 1);
-        dueFigures(x, 0, 1, 0, 150, -150000000000L, -1000000000, -1000000000, 1);
-        dueFigures(x, 0, Scene.NONE, 0, 300, 0, -1000000000, 1000000000, 2);
+        dueFigures(x, 0, 0, 0, 135, 135000000000L, 1000000000, 1000000000, 1);
+        dueFigures(x, 0, 1, 0, 135, -135000000000L, -1000000000, -1000000000, 1);
+        dueFigures(x, 0, Scene.NONE, 0, 270, 0, -1000000000, 1000000000, 2);
     }
 
     private static void withinGroups() {
