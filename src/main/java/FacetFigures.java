@@ -829,9 +829,10 @@ public final class FacetFigures {
             return false;
         }
 
+        /** The missing have no key, so no key finds them: neither NONE nor the number that stands for theirs here. */
         int numberOf(int key) {
             for (int i = 0; i < count; i++) {
-                if (keyOf(i) == key) {
+                if (!isMissing(i) && keyOf(i) == key) {
                     return i;
                 }
             }

@@ -63,11 +63,29 @@ public final class GroupsTest {
         c.due("find 7, which does not match", x.find(0, 7), Scene.NONE);
         c.due("find one that no value has", x.find(0, Integer.MAX_VALUE), Scene.NONE);
         c.due("find one that no value may be", x.find(0, 2000000000), Scene.NONE);
-        c.due("find the missing by the key that group tells", x.find(0, x.group(0, 2, 0)), 2);
+        c.due("the missing are there", x.group(0, 2, 2), 1);
+        c.due("group tells NONE of the missing", x.group(0, 2, 0), Scene.NONE);
+        c.due("the missing have no key", x.find(0, Scene.NONE), Scene.NONE);
         c.due("no such facet", x.find(1, 5), Scene.OUTSIDE);
         c.due("no such facet", x.find(-1, 5), Scene.OUTSIDE);
         x.missing(0, false);
         c.due("the missing, not asked for", x.find(0, Scene.NONE), Scene.NONE);
+        findWhereOnlyTheMissingAre();
+    }
+
+    private static void findWhereOnlyTheMissingAre() {
+        for (int kind = 0; kind < 5; kind++) {
+            FacetFigures x = new FacetFigures();
+            x.object();
+            x.match(0, true);
+            x.facet(kind, 0, kind == 3 ? 1 : 0, 0);
+            x.missing(0, true);
+            c.due("kind " + kind + ": the missing alone", x.groups(0), 1);
+            c.due("kind " + kind + ": find NONE", x.find(0, Scene.NONE), Scene.NONE);
+            c.due("kind " + kind + ": find 2000000000", x.find(0, 2000000000), Scene.NONE);
+            x.enter(0, 0);
+            c.due("kind " + kind + ": find NONE within the missing", x.find(0, Scene.NONE), Scene.NONE);
+        }
     }
 
     private static void in() {

@@ -199,8 +199,8 @@ final class Model {
         }
         List<Heap> all = heaps(facet);
         for (int i = 0; i < all.size(); i++) {
-            int own = all.get(i).key == null ? NONE : all.get(i).key;
-            if (own == key) {
+            Integer own = all.get(i).key;
+            if (own != null && own == key) {
                 return i;
             }
         }
