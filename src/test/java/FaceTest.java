@@ -38,7 +38,8 @@ public final class FaceTest {
         }
         for (Method one : FacetFigures.class.getDeclaredMethods()) {
             boolean hidden = Modifier.isPrivate(one.getModifiers());
-            c.due(one + " bears no public name", hidden && due.toString().contains(" " + one.getName() + "(") ? 1 : 0, 0);
+            boolean bearsPublicName = due.toString().contains(" " + one.getName() + "(");
+            c.due(one + " bears no public name", hidden && bearsPublicName ? 1 : 0, 0);
         }
         c.end();
     }
