@@ -57,8 +57,8 @@ public final class EnteringEdgesTest {
             "hand() = 2", "members(5, 0) = 6", "enter(5, 0) = 1", "hand() = 1", "members(0, 0) = 6",
             "enter(0, 0) = ROOM", "enter(5, 0) = ROOM", "told(3) = 6", "hand() = 1",
             "leave() = 5", "hand() = 2", "members(0, 0) = 5 6", "leave() = 4", "hand() = 3", "leave() = 3",
-            "hand() = 4", "leave() = 2", "hand() = 5", "leave() = 1", "hand() = 6", "members(5, 0) = 6", "leave() = 0", "hand() = 7",
-            "leave() = STATE"));
+            "hand() = 4", "leave() = 2", "hand() = 5", "leave() = 1", "hand() = 6", "members(5, 0) = 6",
+            "leave() = 0", "hand() = 7", "leave() = STATE"));
         s.holds("AT HAND, and so on (6 groups at most): the narrow one first", Sentences.join(NESTED,
             "enter(5, 0) = 1", "5 times enter(#, 0) = 1", "enter(0, 0) = ROOM", "leave() = 5", "hand() = 1",
             "5 times leave()", "hand() = 7"));

@@ -297,8 +297,8 @@ public final class GroupEdgesTest {
             "find(0, 5) = NONE", "leave() = 0", "find(0, 5) = 1");
         s.holds("Promise 14: NONE: there is none: the last GROUP by KEY, and all of them, were there before",
             "thing 0: 5", "thing 0: 6", "facet(0, 0, 0, 0)", "list(0) = 5:1 6:1", "match(1, false)",
-            "find(0, 6) = NONE", "find(0, 5) = 0", "match(0, false)", "find(0, 5) = NONE", "find(0, 6) = NONE", "match(1, true)",
-            "find(0, 6) = 0", "find(0, 5) = NONE");
+            "find(0, 6) = NONE", "find(0, 5) = 0", "match(0, false)", "find(0, 5) = NONE", "find(0, 6) = NONE",
+            "match(1, true)", "find(0, 6) = 0", "find(0, 5) = NONE");
         s.holds("Promise 14: a RANGE without objects has a KEY, where LEAST is 0",
             "facet(2, 0, 0, 0)", "range(0, 0, 9)", "range(0, 10, 19)", "thing 0: 10", "find(0, 0) = NONE",
             "find(0, 1) = 0", "least(0, 0)", "find(0, 0) = 1", "find(0, 1) = 0", "find(0, 2) = NONE",
