@@ -10,6 +10,7 @@ public final class GroupEdgesTest {
         theMissing();
         leastCount();
         leastOfEachKind();
+        leastOfTheMissing();
         orderByCount();
         orderByKey();
         orderBySum();
@@ -151,6 +152,28 @@ public final class GroupEdgesTest {
             "range(2, 0, 999999)", "range(2, 123460, 123460)", "range(2, 5, 5)", "facet(3, 0, 1000, 0)",
             "facet(4, 0, 4, 0)", "5 times least(#, 2)", "list(0) = nothing", "list(1) = 120000:2 123400:2",
             "list(2) = 0:2", "list(3) = 123000:2", "list(4) = 123451:2");
+    }
+
+    private static void leastOfTheMissing() {
+        s.holds("THE MISSING is a GROUP too, so with fewer objects than LEAST it is not there: as many are, one fewer not",
+            "thing", "thing", "facet(0, 0, 0, 0)", "missing(0, true) = 0", "list(0) = missing:2", "least(0, 2) = 1",
+            "list(0) = missing:2", "enter(0, 0) = 2", "least(0, 3) = 2", "list(0) = nothing", "enter(0, 0) = OUTSIDE",
+            "in(0, 0, 0) = OUTSIDE", "figure(0, 0, 0, 0) = OUTSIDE", "place(0, 0, 0, 0) = OUTSIDE", "thing",
+            "list(0) = missing:3", "match(0, false) = 1", "list(0) = nothing");
+        s.holds("THE MISSING is a GROUP too: fewer than LEAST, though other GROUPS are not",
+            "thing 0: 5", "thing 0: 5", "thing", "facet(0, 0, 0, 0)", "missing(0, true)", "least(0, 2) = 1",
+            "list(0) = 5:2", "group(0, 1, 2) = OUTSIDE", "value(2, 1, 5)", "list(0) = 5:2", "thing",
+            "list(0) = 5:2 missing:2");
+        s.holds("THE MISSING is a GROUP too: of those AT HAND that count, fewer than LEAST",
+            "thing 1: 1", "thing 1: 1 2", "facet(0, 0, 0, 0)", "facet(0, 1, 0, 0)", "missing(0, true)",
+            "least(0, 2) = 1", "list(0) = missing:2", "enter(1, 1) = 1", "list(0) = nothing", "leave() = 0",
+            "list(0) = missing:2", "filter(0, 1, 2, 2) = 0", "list(0) = nothing", "filter(0, 1, 1, 1) = 1",
+            "list(0) = missing:2");
+        s.holds("THE MISSING is a GROUP too: of each KIND, 120 of 120, and 119",
+            "120 times object()", "119 times match(#, true)", "facet(0, 0, 0, 0)", "facet(1, 0, 0, 0)",
+            "facet(2, 0, 0, 0)", "range(2, 0, 9)", "facet(3, 0, 1, 0)", "facet(4, 0, 0, 0)",
+            "5 times missing(#, true)", "5 times least(#, 120)", "5 times groups(#) = 0", "match(119, true)",
+            "5 times groups(#) = 1", "5 times group(#, 0, 1) = 120", "5 times group(#, 0, 2) = 1");
     }
 
     private static void orderByCount() {
