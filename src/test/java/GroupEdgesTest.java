@@ -155,7 +155,7 @@ public final class GroupEdgesTest {
     }
 
     private static void leastOfTheMissing() {
-        s.holds("THE MISSING is a GROUP too, so with fewer objects than LEAST it is not there: as many are, one fewer not",
+        s.holds("THE MISSING is a GROUP too: with fewer objects than LEAST it is not there, with as many it is",
             "thing", "thing", "facet(0, 0, 0, 0)", "missing(0, true) = 0", "list(0) = missing:2", "least(0, 2) = 1",
             "list(0) = missing:2", "enter(0, 0) = 2", "least(0, 3) = 2", "list(0) = nothing", "enter(0, 0) = OUTSIDE",
             "in(0, 0, 0) = OUTSIDE", "figure(0, 0, 0, 0) = OUTSIDE", "place(0, 0, 0, 0) = OUTSIDE", "thing",
